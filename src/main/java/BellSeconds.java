@@ -151,7 +151,7 @@ public final class BellSeconds {
         if (!isSecond(second)) {
             return OUTSIDE;
         }
-        if (!now.canLet(bidder, second)) {
+        if (now.isLet(bidder) || !now.fits(bidder, second)) {
             return STATE;
         }
         act(bidder, second + 1);
@@ -638,7 +638,8 @@ public final class BellSeconds {
         }
 
         boolean mayBegin(int bidder, int second) {
-            return hasBidder(bidder) && isSecond(second) && (at(begins, bidder) >>> second & 1) == 1;
+            return bidder >= 0 && bidder < MOST_BIDDERS && second >= 0 && second < SECONDS
+                    && (begins[bidder] >>> second & 1) == 1;
         }
 
         boolean isQuiet(int bidder) {
@@ -650,16 +651,17 @@ public final class BellSeconds {
         }
 
         long takes(int bidder, int second) {
-            int place = SECONDS * bidder + second;
-            return mayBegin(bidder, second) && place < taken.length ? taken[place] : 0L;
+            boolean told = bidder >= 0 && bidder < MOST_BIDDERS && second >= 0 && second < SECONDS;
+            return told ? taken[SECONDS * bidder + second] : 0L;
         }
 
         int ringing(int bidder, int second) {
-            return mayBegin(bidder, second) ? at(rung, SECONDS * bidder + second) : 0;
+            boolean told = bidder >= 0 && bidder < MOST_BIDDERS && second >= 0 && second < SECONDS;
+            return told ? rung[SECONDS * bidder + second] : 0;
         }
 
         int wants(int bidder) {
-            return hasBidder(bidder) ? at(wanted, bidder) : 0;
+            return bidder >= 0 && bidder < MOST_BIDDERS ? wanted[bidder] : 0;
         }
 
         int wantedSeconds() {
@@ -675,8 +677,7 @@ public final class BellSeconds {
 
         /** THE TEXT has no FAULT: the caller looked. */
         void build(Text text) {
-            bells = 0;
-            bidders = 0;
+            clear();
             int place = 1;
             for (int part = 0; part < MOST_LETTERS && place < text.length; part++) {
                 int kind = text.letterAt(place);
@@ -686,6 +687,20 @@ public final class BellSeconds {
                     addBidder(kind, text, place);
                 }
                 place += Text.sizeOf(kind);
+            }
+        }
+
+        /** Of BIDDERS that there are not nothing may be left: their rows are looked at too. */
+        private void clear() {
+            bells = 0;
+            bidders = 0;
+            for (int bidder = 0; bidder < MOST_BIDDERS; bidder++) {
+                coins[bidder] = 0;
+                begins[bidder] = 0;
+                wanted[bidder] = 0;
+                for (int second = 0; second < SECONDS; second++) {
+                    layPlace(bidder, second, 0L, 0);
+                }
             }
         }
 
@@ -713,12 +728,10 @@ public final class BellSeconds {
             coins[bidder] = text.figureAt(times + 2);
             bidders++;
             if (peal) {
-                wanted[bidder] = 0;
                 layPeal(bidder);
             } else {
                 wanted[bidder] = stretch(from[bidder], to[bidder] - from[bidder] + 1) * EVERY_BELL;
                 begins[bidder] = 1 << from[bidder];
-                layPlace(bidder, from[bidder], 0L, 0);
             }
         }
 
@@ -745,10 +758,9 @@ public final class BellSeconds {
         }
 
         private void layPlace(int bidder, int second, long takes, int rings) {
-            int place = SECONDS * bidder + second;
-            if (place >= 0 && place < taken.length && place < rung.length) {
-                taken[place] = takes;
-                rung[place] = rings;
+            if (bidder >= 0 && bidder < MOST_BIDDERS && second >= 0 && second < SECONDS) {
+                taken[SECONDS * bidder + second] = takes;
+                rung[SECONDS * bidder + second] = rings;
             }
         }
 
@@ -795,7 +807,8 @@ public final class BellSeconds {
         }
 
         int secondOf(int bidder) {
-            return isLet(bidder) ? toldOf(bidder) - 1 : NONE;
+            int as = toldOf(bidder);
+            return as != 0 ? as - 1 : NONE;
         }
 
         int everyoneLet() {
@@ -829,7 +842,7 @@ public final class BellSeconds {
         int clashing(int bidder, int second) {
             int those = 0;
             for (int other = 0; other < MOST_BIDDERS; other++) {
-                if (other != bidder && isLet(other) && tower.clash(bidder, second, other, secondOf(other))) {
+                if (other != bidder && told[other] != 0 && tower.clash(bidder, second, other, told[other] - 1)) {
                     those |= 1 << other;
                 }
             }
@@ -840,12 +853,8 @@ public final class BellSeconds {
             return tower.mayBegin(bidder, second) && clashing(bidder, second) == 0;
         }
 
-        boolean canLet(int bidder, int second) {
-            return !isLet(bidder) && fits(bidder, second);
-        }
-
         boolean letIfCan(int bidder, int second) {
-            boolean can = canLet(bidder, second);
+            boolean can = !isLet(bidder) && fits(bidder, second);
             if (can) {
                 tell(bidder, second + 1);
             }
@@ -1177,7 +1186,7 @@ public final class BellSeconds {
                 }
             }
             int ringers = size;
-            for (int stroke = 0; stroke < size; stroke++) {
+            for (int stroke = 0; stroke < MOST_STROKES && stroke < size; stroke++) {
                 seen = 0;
                 ringers -= goesOn(stroke, 0) ? 1 : 0;
             }
