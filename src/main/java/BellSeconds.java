@@ -695,7 +695,6 @@ public final class BellSeconds {
             bells = 0;
             bidders = 0;
             for (int bidder = 0; bidder < MOST_BIDDERS; bidder++) {
-                coins[bidder] = 0;
                 begins[bidder] = 0;
                 wanted[bidder] = 0;
                 for (int second = 0; second < SECONDS; second++) {
