@@ -385,6 +385,8 @@ public final class LetBoundsTests {
         BellSeconds x = Check.of("TB21P010095P010093Q001");
         x.let(0, 4);
         x.let(1, 0);
+        for (int second = 3; second <= 8; second++) due("clashes(0, " + second + "): but itself", 0, x.clashes(0, second));
+        due("clashes(0, 2): the other is damped in 2", 2, x.clashes(0, 2));
         due("its own seconds are no clash", 4, x.move(0, 5));
         due("just behind the other, that is damped in 2", 5, x.move(0, 3));
         due("while the other is damped", STATE, x.move(0, 2));
