@@ -197,6 +197,11 @@ public final class HeardBoundsTests {
         due("0 rings in 1: alone, or beside 1", 2, y.fit(0));
         due("fit(1)", 1, y.fit(1));
         due("the quiet surely not", 4, y.fit(2));
+        BellSeconds z = Check.of("TB20P010011Q111");
+        z.hear(0, 1);
+        due("a stroke of two seconds rings in 0: no silence in 1", 1, z.fit(0));
+        due("the peal surely", 1, z.fit(1));
+        due("the quiet surely not", 2, z.fit(2));
     }
 
     private static void fitAllAndNone() {

@@ -366,6 +366,18 @@ public final class LettingBoundsTests {
             all.let(bidder, seconds[bidder]);
             due("fifteen strokes, " + (bidder + 1) + " peals", hands[bidder], all.hands());
         }
+        int[] handsLeft = {2, 2, 1, 1, 0};
+        for (int k = 0; k < 5; k++) {
+            all.revoke(new int[] {2, 1, 4, 3, 0}[k]);
+            due("strokes that are rung no more need no hand, " + (4 - k) + " peals", handsLeft[k], all.hands());
+        }
+        BellSeconds gone = Check.of("TB10B10P010091P110091");
+        gone.let(0, 5);
+        gone.let(1, 3);
+        due("from 3 on bell 1 to 5 on bell 0", 1, gone.hands());
+        gone.revoke(1);
+        gone.move(0, 0);
+        due("one stroke, nobody comes or goes on from it", 1, gone.hands());
         BellSeconds last = Check.of("TB10B10B10P030091P030091P030091P130091P233091");
         int[] begins = {0, 3, 6, 7, 1};
         for (int bidder = 0; bidder < 5; bidder++) last.let(bidder, begins[bidder]);
