@@ -384,6 +384,12 @@ public final class LettingBoundsTests {
         due("the fifteenth stroke needs a hand of its own: in 9 two bells off, or one that rings", 3, last.hands());
         last.move(4, 0);
         due("in 8 all three bells ring", 3, last.hands());
+        BellSeconds early = Check.of("TB10B10P030091P030091P030091P130091P130091");
+        int[] from = {1, 4, 7, 3, 0};
+        for (int bidder = 0; bidder < 5; bidder++) early.let(bidder, from[bidder]);
+        due("who rings the fifteenth stroke, in 2, goes on", 2, early.hands());
+        early.move(3, 4);
+        due("and waits", 2, early.hands());
         BellSeconds walks = Check.of("TB10B10B10P030091P210091P110091");
         walks.let(0, 0);
         walks.let(1, 5);
